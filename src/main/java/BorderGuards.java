@@ -160,11 +160,11 @@ public final class BorderGuards {
             return BAD;
         }
         plans.prepare(land, cuts);
-        int posts = plans.bestFor(coin);
-        if (what == 0) {
-            return posts;
+        if (what == 1) {
+            return plans.leastFor(coin);
         }
-        return what == 1 ? plans.mostOf(land.heldBy(posts)) : land.costOf(posts);
+        int posts = plans.bestFor(coin);
+        return what == 0 ? posts : land.costOf(posts);
     }
 
     public int fewest(int l) {
@@ -173,7 +173,7 @@ public final class BorderGuards {
         }
         plans.prepare(land, cuts);
         for (int coin = 0; coin <= MAX_COIN; coin++) {
-            if (leastFor(coin) <= l) {
+            if (plans.leastFor(coin) <= l) {
                 return coin;
             }
         }
@@ -182,7 +182,7 @@ public final class BorderGuards {
 
     public int more() {
         plans.prepare(land, cuts);
-        return leastFor(land.coin) - leastFor(land.coin + 1);
+        return plans.leastFor(land.coin) - plans.leastFor(land.coin + 1);
     }
 
     public int oneMore(int posts, int path) {
@@ -400,10 +400,6 @@ public final class BorderGuards {
     private int mostBy(int posts, int oneMorePath) {
         cuts.weigh(land, land.heldBy(posts), oneMorePath);
         return cuts.least;
-    }
-
-    private int leastFor(int coin) {
-        return plans.mostOf(land.heldBy(plans.bestFor(coin)));
     }
 
     private boolean playGame() {
@@ -834,16 +830,17 @@ public final class BorderGuards {
 
     /**
      * What all sets of posts do, found once for a land: sets that hold the same paths are alike but
-     * for their cost, so the tables are by the paths that are held.
+     * for their cost, so most tables are by the paths that are held.
      */
     static final class Plans {
         private static final int UNSET = -1;
 
         private final int[] mostByHeld = new int[HELD_SETS];
-        private final int[] postsByHeld = new int[HELD_SETS];
-        private final int[] bestByCoin = new int[MAX_COIN + 1];
-        // How a sum over a set changes when the set, read as a number, rises by one to bit k.
-        private final int[] rise = new int[MAX_PATHS + 1];
+        private final int[] affordable = new int[HELD_SETS];
+        private final int[] sums = new int[HELD_SETS];
+        private final int[] addends = new int[MAX_PATHS];
+        private final int[] bestPosts = new int[MAX_COIN + 1];
+        private final int[] bestMost = new int[MAX_COIN + 1];
         private int sets;
         private boolean ready;
         private int paying;
@@ -862,109 +859,107 @@ public final class BorderGuards {
             }
             sets = Math.min(1 << land.pathCount, HELD_SETS);
             Arrays.fill(mostByHeld, Integer.MAX_VALUE);
-            Arrays.fill(postsByHeld, UNSET);
-            Arrays.fill(bestByCoin, UNSET);
+            Arrays.fill(affordable, UNSET);
+            Arrays.fill(bestPosts, UNSET);
+            Arrays.fill(bestMost, Integer.MAX_VALUE);
             for (int cut = 0; cut < Cuts.CUTS; cut++) {
                 if (cuts.isNeeded(cut)) {
                     lowerMost(land, cuts.pathsOut[cut]);
                 }
             }
-            setRise(land, COIN);
+            sumNumbers(land, COIN);
             for (int towers = 0; towers < 1 << land.towerCount && towers < 1 << MAX_TOWERS; towers++) {
                 offerAll(land, towers << MAX_PATHS);
             }
-            spreadBest(land);
+            spreadBest();
             ready = true;
         }
 
         int bestFor(int coin) {
-            return coin < 0 ? 0 : bestByCoin[Math.min(coin, MAX_COIN)];
+            return bestPosts[Math.max(0, Math.min(coin, MAX_COIN))];
         }
 
-        int mostOf(int held) {
-            return mostByHeld[held & ALL_HELD];
+        int leastFor(int coin) {
+            return bestMost[Math.max(0, Math.min(coin, MAX_COIN))];
         }
 
         private void lowerMost(Land land, int cutPaths) {
-            int borne = 0;
-            int lower = 0;
+            int free = 0;
             for (int p = 0; p < MAX_PATHS; p++) {
                 int cut = cutPaths >> p & 1;
-                int free = cut * land.bearing(p, 0, 0);
-                int drop = free - cut * land.bearing(p, ALL_HELD, 0);
-                borne += free;
-                rise[p] = lower - drop;
-                lower += drop;
+                int bears = cut * land.bearing(p, 0, 0);
+                addends[p] = cut * land.bearing(p, ALL_HELD, 0) - bears;
+                free += bears;
             }
+            sumAddends(free);
             for (int held = 0; held < sets; held++) {
-                mostByHeld[held] = Math.min(mostByHeld[held], borne);
-                borne += riseAfter(held);
+                if (sums[held] < mostByHeld[held]) {
+                    mostByHeld[held] = sums[held];
+                }
             }
         }
 
-        private void setRise(Land land, int number) {
-            int lower = 0;
+        private void sumNumbers(Land land, int number) {
             for (int p = 0; p < MAX_PATHS; p++) {
-                int one = land.paths[p][number];
-                rise[p] = one - lower;
-                lower += one;
+                addends[p] = land.paths[p][number];
             }
+            sumAddends(0);
         }
 
-        private int riseAfter(int held) {
-            return rise[Math.min(Integer.numberOfTrailingZeros(held + 1), MAX_PATHS)];
+        /** For each set of paths what its paths add to the start. */
+        private void sumAddends(int start) {
+            sums[0] = start;
+            for (int p = 0; p < MAX_PATHS; p++) {
+                int bit = 1 << p;
+                int addend = addends[p];
+                for (int set = bit; set < 2 * bit && set < sets; set++) {
+                    sums[set] = sums[set - bit] + addend;
+                }
+            }
         }
 
         /** Looks at all posts with these towers, in the order of their bits: so the first of several stays. */
         private void offerAll(Land land, int towers) {
             int seen = land.heldBy(towers);
-            int cost = land.costOf(towers);
+            int towersCost = land.costOf(towers);
             for (int paths = 0; paths < sets; paths++) {
                 int held = (paths | seen) & ALL_HELD;
-                if (cost <= land.coin && postsByHeld[held] == UNSET) {
-                    postsByHeld[held] = paths | towers;
+                int cost = towersCost + sums[paths];
+                if (cost <= land.coin && affordable[held] == UNSET) {
+                    affordable[held] = paths | towers;
                 }
-                if (cost >= 0 && cost <= MAX_COIN) {
-                    int before = bestByCoin[cost];
-                    if (before == UNSET || mostByHeld[held] < mostOf(land.heldBy(before))) {
-                        bestByCoin[cost] = paths | towers;
-                    }
+                if (cost >= 0 && cost <= MAX_COIN && mostByHeld[held] < bestMost[cost]) {
+                    bestMost[cost] = mostByHeld[held];
+                    bestPosts[cost] = paths | towers;
                 }
-                cost += riseAfter(paths);
             }
         }
 
-        private void spreadBest(Land land) {
-            int kept = bestByCoin[0];
+        /** What is best for some coin may be best for more coin too. */
+        private void spreadBest() {
             for (int coin = 1; coin <= MAX_COIN; coin++) {
-                int posts = bestByCoin[coin];
-                if (posts != UNSET && isBetter(land, posts, kept)) {
-                    kept = posts;
+                int less = coin - 1;
+                boolean alike = bestMost[less] == bestMost[coin];
+                if (bestMost[less] < bestMost[coin] || alike && bestPosts[less] < bestPosts[coin]) {
+                    bestMost[coin] = bestMost[less];
+                    bestPosts[coin] = bestPosts[less];
                 }
-                bestByCoin[coin] = kept;
             }
-        }
-
-        private boolean isBetter(Land land, int posts, int than) {
-            int most = mostOf(land.heldBy(posts));
-            int other = mostOf(land.heldBy(than));
-            return most < other || most == other && posts < than;
         }
 
         void weigh(Land land, int a, int b) {
-            setRise(land, WAIT);
+            sumNumbers(land, WAIT);
             foundPosts = UNSET;
-            foundSum = 0;
-            int waits = 0;
+            foundSum = Integer.MAX_VALUE;
             for (int held = 0; held < sets; held++) {
-                int posts = postsByHeld[held];
-                int sum = a * mostByHeld[held] + b * waits;
-                boolean better = sum < foundSum || sum == foundSum && posts < foundPosts;
-                if (posts != UNSET && (foundPosts == UNSET || better)) {
-                    foundPosts = posts;
-                    foundSum = sum;
+                int posts = affordable[held];
+                if (posts != UNSET) {
+                    int sum = a * mostByHeld[held] + b * sums[held];
+                    if (sum < foundSum || sum == foundSum && posts < foundPosts) {
+                        foundPosts = posts;
+                        foundSum = sum;
+                    }
                 }
-                waits += riseAfter(held);
             }
         }
 
@@ -975,7 +970,7 @@ public final class BorderGuards {
             paying = 0;
             long least = Long.MAX_VALUE;
             for (int held = 0; held < sets; held++) {
-                int posts = postsByHeld[held];
+                int posts = affordable[held];
                 if (posts != UNSET) {
                     long greatest = ways.greatestGain(land, held, least);
                     if (greatest < least || greatest == least && posts < paying) {
