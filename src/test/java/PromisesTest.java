@@ -326,6 +326,30 @@ public final class PromisesTest {
         due(14, "more() without coin", free.more(), 0);
     }
 
+    private static void plansAsFirstCalls() {
+        due(12, "best(6, 1) first", land(SMALL).best(6, 1), 2);
+        due(13, "fewest(2) first", land(SMALL).fewest(2), 6);
+        due(14, "more() first", land(SMALL).more(), 1);
+        due(16, "weighed(1, 1, 1) first", land(SMALL).weighed(1, 1, 1), 10);
+        due(21, "leastPay() first", land(SMALL).leastPay(), 5);
+        due(14, "more() from 18", land("p0,7,9,0,20,100,0;c18;").more(), 0);
+        due(14, "more() without coin", land("p0,7,9,0,1,100,0;").more(), 9);
+    }
+
+    /** A tower has greater bits than any posts on paths, though what it sees may be lower paths. */
+    private static void towersAndPaths() {
+        BorderGuards x = land("p0,7,9,50,20,60,1;p0,7,9,0,20,60,1;p0,7,9,50,1,60,1;t0,1,1;c1;");
+        due(12, "best(1, 0)", x.best(1, 0), 4096);
+        due(16, "weighed(1, 0, 0)", x.weighed(1, 0, 0), 4096);
+        due(16, "weighed(1, 6, 0): all are alike", x.weighed(1, 6, 0), 0);
+        due(21, "leastPay()", x.leastPay(), 4096);
+        BorderGuards z = land("p0,7,9,0,20,50,1;p0,7,9,0,20,50,1;p0,7,10,0,1,100,2;t0,1,1;c1;");
+        due(12, "best(1, 0): alike, so the least bits", z.best(1, 0), 4);
+        due(12, "best(1, 1)", z.best(1, 1), 18);
+        due(16, "weighed(1, 0, 0): alike, so the least bits", z.weighed(1, 0, 0), 4);
+        due(16, "weighed(2, 1, 1)", z.weighed(2, 1, 1), 38);
+    }
+
     private static void oneMores() {
         BorderGuards x = land(SMALL);
         due(15, "oneMore(0, 0)", x.oneMore(0, 0), 0);
@@ -641,6 +665,8 @@ public final class PromisesTest {
         mostOfAll();
         rows();
         plans();
+        plansAsFirstCalls();
+        towersAndPaths();
         oneMores();
         ways();
         gains();
