@@ -1025,12 +1025,12 @@ public final class BorderGuards {
     /** What each carrier brings by each guard, and the chances by which each side does its best. */
     static final class Game {
         private static final int SETS = 1 << MAX_LOTS;
+        private static final int MAX_REST = MAX_LOTS - 1;
 
         final int[][] brings = new int[MAX_LOTS][MAX_LOTS];
         final long[] guardParts = new long[MAX_LOTS];
         final long[] carrierParts = new long[MAX_LOTS];
-        private final int[] restGuards = new int[MAX_LOTS];
-        private final int[] restCarriers = new int[MAX_LOTS];
+        private final long[][] rest = new long[MAX_REST][MAX_REST];
         private long whole;
         long valueParts;
 
@@ -1047,7 +1047,7 @@ public final class BorderGuards {
 
         private boolean findCarriers(int guards, int toldGuards, int toldCarriers, int size) {
             for (int carriers = 1; carriers < SETS; carriers++) {
-                if (isSetOf(carriers, toldCarriers, size) && mixes(guards, carriers, size)) {
+                if (isSetOf(carriers, toldCarriers, size) && mixes(guards, carriers)) {
                     // All guards of the set are alike, so any one tells the value.
                     valueParts = meanBy(Integer.numberOfTrailingZeros(guards));
                     if (noneDoesBetter(toldGuards, toldCarriers)) {
@@ -1067,14 +1067,14 @@ public final class BorderGuards {
          * they are: a guard's its line's sum by the sum of all, a carrier's its column's; there is
          * just one such way if the sum of all is not 0.
          */
-        private boolean mixes(int guards, int carriers, int size) {
+        private boolean mixes(int guards, int carriers) {
             Arrays.fill(guardParts, 0L);
             Arrays.fill(carrierParts, 0L);
             whole = 0;
             for (int g = 0; g < MAX_LOTS; g++) {
                 for (int c = 0; c < MAX_LOTS; c++) {
                     if ((guards >> g & 1) != 0 && (carriers >> c & 1) != 0) {
-                        long minor = signedMinor(guards, carriers, g, c, size);
+                        long minor = signedMinor(guards, carriers, g, c);
                         guardParts[g] += minor;
                         carrierParts[c] += minor;
                         whole += minor;
@@ -1107,47 +1107,42 @@ public final class BorderGuards {
             return true;
         }
 
-        private long signedMinor(int guards, int carriers, int g, int c, int size) {
-            int guardPlace = fillRest(restGuards, guards, g);
-            int carrierPlace = fillRest(restCarriers, carriers, c);
-            long minor = minorOf(size - 1);
-            return (guardPlace + carrierPlace & 1) == 0 ? minor : -minor;
-        }
-
-        /** Puts the set without one into a row: how many of the set stand ahead of that one. */
-        private static int fillRest(int[] rest, int set, int without) {
-            int filled = 0;
-            for (int k = 0; k < MAX_LOTS && filled < rest.length; k++) {
-                if ((set >> k & 1) != 0 && k != without) {
-                    rest[filled] = k;
-                    filled++;
+        private long signedMinor(int guards, int carriers, int guard, int carrier) {
+            int line = 0;
+            for (int g = 0; g < MAX_LOTS; g++) {
+                if ((guards >> g & 1) != 0 && g != guard && line < MAX_REST) {
+                    fillLine(line, g, carriers & ~(1 << carrier));
+                    line++;
                 }
             }
-            return Integer.bitCount(set & (1 << without) - 1);
+            int ahead = Integer.bitCount(guards & (1 << guard) - 1) + Integer.bitCount(carriers & (1 << carrier) - 1);
+            long minor = minorOf(line);
+            return (ahead & 1) == 0 ? minor : -minor;
         }
 
-        private long minorOf(int order) {
-            switch (order) {
+        private void fillLine(int line, int guard, int carriers) {
+            int column = 0;
+            for (int c = 0; c < MAX_LOTS; c++) {
+                if ((carriers >> c & 1) != 0 && column < MAX_REST) {
+                    rest[line][column] = brings[guard][c];
+                    column++;
+                }
+            }
+        }
+
+        private long minorOf(int size) {
+            switch (size) {
                 case 0:
                     return 1;
                 case 1:
-                    return cell(0, 0);
+                    return rest[0][0];
                 case 2:
-                    return square(0, 1, 0, 1);
+                    return rest[0][0] * rest[1][1] - rest[0][1] * rest[1][0];
                 default:
-                    return cell(0, 0) * square(1, 2, 1, 2)
-                            - cell(0, 1) * square(1, 2, 0, 2)
-                            + cell(0, 2) * square(1, 2, 0, 1);
+                    return rest[0][0] * (rest[1][1] * rest[2][2] - rest[1][2] * rest[2][1])
+                            - rest[0][1] * (rest[1][0] * rest[2][2] - rest[1][2] * rest[2][0])
+                            + rest[0][2] * (rest[1][0] * rest[2][1] - rest[1][1] * rest[2][0]);
             }
-        }
-
-        private long square(int row1, int row2, int column1, int column2) {
-            return cell(row1, column1) * cell(row2, column2) - cell(row1, column2) * cell(row2, column1);
-        }
-
-        private long cell(int row, int column) {
-            int last = MAX_LOTS - 1;
-            return brings[restGuards[row & last] & last][restCarriers[column & last] & last];
         }
 
         private boolean noneDoesBetter(int toldGuards, int toldCarriers) {
@@ -1183,9 +1178,9 @@ public final class BorderGuards {
             long a = parts;
             long b = whole;
             for (int i = 0; i < 200 && b != 0; i++) {
-                long rest = a % b;
+                long left = a % b;
                 a = b;
-                b = rest;
+                b = left;
             }
             if (a == 0) {
                 return part;
