@@ -334,6 +334,9 @@ public final class PromisesTest {
         due(21, "leastPay() first", land(SMALL).leastPay(), 5);
         due(14, "more() from 18", land("p0,7,9,0,20,100,0;c18;").more(), 0);
         due(14, "more() without coin", land("p0,7,9,0,1,100,0;").more(), 9);
+        due(12, "best(0, 0) where a post costs 1", land("p0,7,9,0,1,100,0;").best(0, 0), 0);
+        due(12, "best(0, 1) where a post costs 1", land("p0,7,9,0,1,100,0;").best(0, 1), 9);
+        due(12, "best(1, 0) where a post costs 1", land("p0,7,9,0,1,100,0;").best(1, 0), 1);
     }
 
     /** A tower has greater bits than any posts on paths, though what it sees may be lower paths. */
