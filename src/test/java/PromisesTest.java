@@ -1,7 +1,7 @@
 /** For each promise: ordinary calls, the edges that the document names, and wrong numbers. */
 public final class PromisesTest {
-    private static final int BAD = -1, NO = -2, FULL = -3, NONE = -4;
-    private static final long PART = 100000000000000L;
+    private static final int BAD = Due.BAD, NO = Due.NO, FULL = Due.FULL, NONE = Due.NONE;
+    private static final long PART = Due.PARTS;
     private static final String TWELVE = "p0,1,1,1,1,1,1;p1,2,1,1,1,1,1;p2,3,1,1,1,1,1;p3,4,1,1,1,1,1;"
             + "p4,5,1,1,1,1,1;p5,6,1,1,1,1,1;p6,7,1,1,1,1,1;p7,6,1,1,1,1,1;p6,5,1,1,1,1,1;p5,4,1,1,1,1,1;"
             + "p4,3,1,1,1,1,1;p3,2,1,1,1,1,1;";
@@ -9,38 +9,20 @@ public final class PromisesTest {
     private static final String SMALL =
             "p0,1,10,5,3,50,2;p1,7,8,5,4,100,7;p0,7,3,20,2,30,1;t0,2,6;c5;v50;o9;";
 
-    private static int wrong = 0;
-
     private static void due(int promise, String what, long got, long want) {
-        if (got != want) {
-            wrong++;
-            System.out.println("promise " + promise + ": " + what + " answered " + got + ", due is " + want);
-        }
+        Due.is(promise, what, got, want);
     }
 
     private static void write(BorderGuards x, String text) {
-        for (int at = 0; at < text.length(); at += 8) {
-            int n = Math.min(8, text.length() - at);
-            long v = 0;
-            for (int i = 0; i < n; i++) {
-                v = v << 8 | text.charAt(at + i);
-            }
-            x.write(n, v);
-        }
+        Due.write(x, text);
     }
 
     private static BorderGuards land(String text) {
-        BorderGuards x = new BorderGuards();
-        relay(x, text);
-        return x;
+        return Due.land(text);
     }
 
     private static void relay(BorderGuards x, String text) {
-        x.wipe();
-        write(x, text);
-        if (x.lay() < 0) {
-            due(5, "lay of " + text, NO, 0);
-        }
+        Due.relay(x, text);
     }
 
     private static void newObject() {
@@ -133,9 +115,7 @@ public final class PromisesTest {
     }
 
     private static int faultOf(String text) {
-        BorderGuards x = new BorderGuards();
-        write(x, text);
-        return x.fault();
+        return Due.faultOf(text);
     }
 
     private static void laying() {
@@ -680,9 +660,6 @@ public final class PromisesTest {
         rounds();
         keeping();
         counts();
-        System.out.println(wrong == 0 ? "all promises hold" : wrong + " answers are not as due");
-        if (wrong != 0) {
-            System.exit(1);
-        }
+        Due.end();
     }
 }
