@@ -633,8 +633,17 @@ public final class BorderGuards {
             if (path < 0 || path >= MAX_PATHS) {
                 return 0;
             }
-            int loads = paths[path][LOADS] + besides;
-            return (held >> path & 1) == 0 ? loads : loads * (100 - paths[path][STOPS]) / 100;
+            return (paths[path][LOADS] + besides) * hundredthsThrough(path, held) / 100;
+        }
+
+        /** How many hundredths of what is carried over a path come through. */
+        int hundredthsThrough(int path, int held) {
+            boolean isHeld = path >= 0 && path < MAX_PATHS && (held >> path & 1) != 0;
+            return isHeld ? 100 - paths[path][STOPS] : 100;
+        }
+
+        int carryingOn(int path) {
+            return path >= 0 && path < MAX_PATHS ? paths[path][CARRYING] : 0;
         }
 
         int comesMoreThanGoes(int place, int[] loads) {
@@ -731,17 +740,20 @@ public final class BorderGuards {
     static final class Ways {
         private final int[] steps = new int[MAX_WAYS * MAX_STEPS];
         private final int[] lengths = new int[MAX_WAYS];
+        private final int[] carrying = new int[MAX_WAYS];
         private final int[] trail = new int[MAX_STEPS];
+        private int hardest;
         int size;
 
         void survey(Land land) {
             size = 0;
+            hardest = 0;
             follow(this, land, 0, 1, 0);
         }
 
         private static void follow(Ways ways, Land land, int place, int seen, int depth) {
             if (place == GOAL) {
-                ways.add(depth);
+                ways.add(land, depth);
                 return;
             }
             if (depth >= MAX_STEPS) {
@@ -756,14 +768,18 @@ public final class BorderGuards {
             }
         }
 
-        private void add(int length) {
-            if (size >= MAX_WAYS) {
+        private void add(Land land, int length) {
+            if (size < 0 || size >= MAX_WAYS) {
                 return;
             }
+            int carried = 0;
             for (int i = 0; i < length && i < MAX_STEPS; i++) {
-                steps[size * MAX_STEPS + i] = trail[i];
+                int p = trail[i];
+                carried += land.carryingOn(p);
+                steps[size * MAX_STEPS + i] = p;
             }
             lengths[size] = length;
+            carrying[size] = carried;
             size++;
         }
 
@@ -785,20 +801,15 @@ public final class BorderGuards {
         }
 
         long gainOf(Land land, int held, int w) {
-            long share = land.worth;
-            long carrying = 0;
-            int length = lengthOf(w);
-            for (int i = 0; i < MAX_STEPS; i++) {
-                int p = pathAt(w, i);
-                int comes = 100;
-                if (i < length && p >= 0 && p < MAX_PATHS) {
-                    carrying += land.paths[p][CARRYING];
-                    comes -= (held >> p & 1) * land.paths[p][STOPS];
-                }
-                // Each place for a path counts a hundred, so that all shares are of the same parts.
-                share *= comes;
+            if (w < 0 || w >= MAX_WAYS) {
+                return NO_GAIN;
             }
-            return share - carrying * PARTS;
+            long share = land.worth * PARTS;
+            for (int i = 0; i < lengths[w] && i < MAX_STEPS; i++) {
+                // There are parts for the hundredths of seven paths, so nothing is cut off here.
+                share = share / 100 * land.hundredthsThrough(pathAt(w, i), held);
+            }
+            return share - carrying[w] * PARTS;
         }
 
         int bestOf(Land land, int held) {
@@ -816,12 +827,16 @@ public final class BorderGuards {
 
         /** The greatest gain of all ways, or any that is above the limit as soon as there is one. */
         long greatestGain(Land land, int held, long limit) {
-            long greatest = land.other * PARTS;
-            for (int w = 0; w < size && w < MAX_WAYS; w++) {
+            if (size <= 0) {
+                return land.other * PARTS;
+            }
+            // The way that was hardest to hold down before is so again, most likely: it is looked at first.
+            long greatest = gainOf(land, held, hardest);
+            for (int w = 0; w < size && w < MAX_WAYS && greatest <= limit; w++) {
                 long gain = gainOf(land, held, w);
-                greatest = w == 0 ? gain : Math.max(greatest, gain);
-                if (greatest > limit) {
-                    return greatest;
+                if (gain > greatest) {
+                    greatest = gain;
+                    hardest = w;
                 }
             }
             return greatest;
@@ -972,8 +987,10 @@ public final class BorderGuards {
             for (int held = 0; held < sets; held++) {
                 int posts = affordable[held];
                 if (posts != UNSET) {
-                    long greatest = ways.greatestGain(land, held, least);
-                    if (greatest < least || greatest == least && posts < paying) {
+                    // As much will do for lower bits alone.
+                    long limit = posts < paying ? least : least - 1;
+                    long greatest = ways.greatestGain(land, held, limit);
+                    if (greatest <= limit) {
                         least = greatest;
                         paying = posts;
                     }
