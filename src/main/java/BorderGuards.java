@@ -693,14 +693,12 @@ public final class BorderGuards {
                 bearings[p] = land.bearing(p, held, p == oneMorePath ? 1 : 0);
             }
             least = Integer.MAX_VALUE;
-            shore = 0;
+            // What the narrowest have in common is one of them, and by its bits the first.
             for (int cut = 0; cut < CUTS; cut++) {
                 int borne = sumOver(pathsOut[cut]);
                 if (borne < least) {
                     least = borne;
                     shore = placesOf(cut);
-                } else if (borne == least) {
-                    shore &= placesOf(cut);
                 }
             }
         }

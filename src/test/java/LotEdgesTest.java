@@ -165,6 +165,11 @@ public final class LotEdgesTest {
         dueGame(new int[][] {{0, 0, 8}, {0, 0, 8}, {6, 6, 0}}, "24/7", "3/7 0/1 4/7", "4/7 0/1 3/7");
         dueGame(new int[][] {{0, 8, 0, 8}, {6, 0, 6, 0}, {0, 8, 0, 8}, {6, 0, 6, 0}}, "24/7", "3/7 4/7 0/1 0/1", "4/7 3/7 0/1 0/1");
         dueGame(new int[][] {{9, 9, 9, 9}, {9, 9, 9, 9}, {1, 0, 0, 8}, {1, 1, 6, 0}}, "24/7", "0/1 0/1 3/7 4/7", "0/1 0/1 4/7 3/7");
+        // The last two guards with the first two carriers do it too.
+        dueGame(new int[][] {{3, 3, 0, 6}, {3, 3, 6, 0}, {0, 6, 3, 3}, {6, 0, 3, 3}}, "3/1", "1/2 1/2 0/1 0/1", "0/1 0/1 1/2 1/2");
+        // Guards 0 and 3 do it too, and so do carriers 0 and 3 below: 1 and 2 are less by bits.
+        dueGame(new int[][] {{1, 5, 6}, {0, 6, 0}, {6, 0, 6}, {5, 1, 0}}, "3/1", "0/1 1/2 1/2 0/1", "1/2 1/2 0/1");
+        dueGame(new int[][] {{1, 0, 6, 5}, {5, 6, 0, 1}, {0, 6, 0, 6}}, "3/1", "1/2 1/2 0/1", "0/1 1/2 1/2 0/1");
         Due.sentence(25, "no other GUARD less");
         // By the chances of the carriers a third guard has 27, 24, 21 of 7.
         dueGame(new int[][] {{0, 8}, {6, 0}, {3, 5}}, "24/7", "3/7 4/7 0/1", "4/7 3/7");
@@ -182,6 +187,14 @@ public final class LotEdgesTest {
         dueGame(new int[][] {{0, 15, 20}, {12, 0, 20}, {12, 15, 0}}, "10/1", "1/6 1/3 1/2", "5/12 1/3 1/4");
         dueGame(new int[][] {{0, 12, 15, 20}, {12, 0, 15, 20}, {12, 12, 0, 20}, {12, 12, 15, 0}}, "180/17",
                 "2/17 2/17 5/17 8/17", "5/17 5/17 4/17 3/17");
+        dueGame(new int[][] {{2, 0, 6, 3}, {4, 2, 0, 3}, {4, 4, 5, 1}, {0, 5, 5, 2}}, "253/97",
+                "31/194 99/194 6/97 26/97", "17/97 19/97 12/97 49/97");
+        dueGame(new int[][] {{6, 0, 6, 0}, {4, 4, 2, 1}, {0, 5, 3, 6}, {6, 0, 0, 1}}, "408/137",
+                "29/137 27/137 60/137 21/137", "61/137 27/137 7/137 42/137");
+        // Two of the first two do it too, and three of the first three: those that are fewer come first.
+        dueGame(new int[][] {{0, 6, 3}, {6, 0, 3}, {3, 3, 3}}, "3/1", "0/1 0/1 1/1", "0/1 0/1 1/1");
+        dueGame(new int[][] {{0, 15, 20, 0}, {12, 0, 20, 0}, {12, 15, 0, 20}, {8, 5, 20, 0}}, "10/1",
+                "0/1 0/1 1/2 1/2", "0/1 0/1 1/2 1/2");
         Due.sentence(25, "chances above 0");
         // With 4 on the third path two do it; with 5 it takes all three.
         dueGame(new int[][] {{0, 12, 4}, {6, 0, 4}, {6, 12, 0}}, "4/1", "1/3 2/3 0/1", "2/3 1/3 0/1");
@@ -311,6 +324,9 @@ public final class LotEdgesTest {
             Due.is("told(): no carrier", x.told(), NO);
         }
         Due.sentence(27, "the mean of the greatest THROUGH less the greatest mean of one CARRIER: in tenths");
+        BorderGuards nothing = game(new int[][] {{0, 0}, {9, 9}});
+        nothing.tenths(0, 10);
+        Due.is("told(): nothing comes through", nothing.told(), 0);
         BorderGuards most = game(new int[][] {{0, 99}, {99, 0}});
         most.tenths(0, 5);
         most.tenths(1, 5);
@@ -371,6 +387,7 @@ public final class LotEdgesTest {
                 Due.is("nights(2, " + d + ") of guards " + bits + " bits apart", x.nights(2, d), d >= bits ? 12 + second : NONE);
             }
             Due.is("nights(1, 0) of guards " + bits + " bits apart", x.nights(1, 0), second);
+            Due.is("nights(3, 15) of guards " + bits + " bits apart", x.nights(3, 15), 12 + 2 * second);
         }
         // Guard 2 is near to guard 0 alone, and guard 1 to none.
         BorderGuards x = Due.land(land);

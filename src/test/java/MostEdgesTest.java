@@ -41,6 +41,15 @@ public final class MostEdgesTest {
         return text.toString();
     }
 
+    private static void mostOfASmallerLand() {
+        Due.sentence(9, "the most LOADS a night: of the paths that are there");
+        BorderGuards x = Due.land(WIDE);
+        Due.relay(x, "p0,1,9,0,0,0,0;p1,7,5,0,0,0,0;");
+        dueMost(x, 0, 5, 3, 2);
+        Due.relay(x, "");
+        dueMost(x, 0, 0, 1, 0);
+    }
+
     private static void shoreOfChains() {
         Due.sentence(9, "SHORE: places to which more could come: those that are so whatever ways they go");
         for (int narrow = 0; narrow < 7; narrow++) {
@@ -125,6 +134,13 @@ public final class MostEdgesTest {
             Due.is("judge(0): path " + p + " is not there", none.judge(0), p);
             none.row(p, 0);
             Due.is("judge(0): no loads on it", none.judge(0), 200);
+        }
+        BorderGuards fewer = Due.land(WIDE);
+        Due.relay(fewer, "p0,7,50,0,0,50,0;");
+        for (int p = 1; p < 12; p++) {
+            fewer.row(p, 1);
+            Due.is("judge(0): path " + p + " is there no more", fewer.judge(0), p);
+            fewer.row(p, 0);
         }
         BorderGuards tower = Due.land("p0,7,9,0,0,100,0;p0,7,9,0,0,100,0;t1,0,0;");
         tower.row(1, 1);
@@ -358,6 +374,10 @@ public final class MostEdgesTest {
         Due.is("weighed(1, 1, 0): as two posts, so the tower: the least bits", x.weighed(1, 1, 0), 6);
         Due.is("weighed(3, 4, 0): all sums are alike but that with path 0", x.weighed(3, 4, 0), 0);
         Due.is("weighed(0, 0, 0): all sums are alike", x.weighed(0, 0, 0), 0);
+        BorderGuards far = Due.land("p0,7,9,0,20,100,0;p0,7,9,0,20,100,0;p0,7,9,0,1,50,0;t0,1,1;c1;");
+        Due.is("weighed(1, 0, 0): the least sum, not the least bits", far.weighed(1, 0, 0), 4096);
+        BorderGuards alike = Due.land("p0,7,9,0,20,50,0;p0,7,9,0,20,50,0;p0,7,10,0,1,100,0;t0,1,1;c1;");
+        Due.is("weighed(1, 0, 0): a tower and a post are alike", alike.weighed(1, 0, 0), 4);
         BorderGuards cheap = Due.land("p0,7,4,0,2,100,4;p0,7,4,0,1,100,3;p0,7,4,0,1,100,3;t1,2,1;c1;");
         Due.is("weighed(1, 1, 0): the tower for one coin", cheap.weighed(1, 1, 0), 4096);
         Due.is("weighed(1, 1, 1)", cheap.weighed(1, 1, 1), 10);
@@ -365,6 +385,7 @@ public final class MostEdgesTest {
 
     public static void main(String[] args) {
         mostOfNothingAndAll();
+        mostOfASmallerLand();
         shoreOfChains();
         shoreWhateverWays();
         rowTakes();

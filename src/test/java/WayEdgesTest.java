@@ -227,7 +227,16 @@ public final class WayEdgesTest {
         Due.is("C is not looked at", Due.land("p0,7,0,0,1,50,0;p0,7,99,60,1,50,0;c1;").leastPay(), 1);
         // A share that differs in parts of a load alone.
         Due.is("one part of a load", Due.land(chain(7, "0,0,1,99,0") + "v1;c7;").leastPay(), 127);
+        // Held by a tower the first ways gain less than the last: then a post on the last alone holds none of them.
+        Due.is("the least of the greatest", Due.land("p0,7,9,0,20,51,0;p0,7,9,0,20,51,0;p0,7,9,50,1,0,0;t0,1,1;c1;").leastPay(), 4096);
+        Due.is("a post that does as a tower does", Due.land("p0,1,9,0,20,50,0;p7,0,9,0,20,50,0;p1,7,9,0,1,50,0;t0,1,1;c1;").leastPay(), 4);
+        BorderGuards fewer = Due.land(Due.sideBySide("9,1,50,0", 1, 2, 3, 4, 5, 6, 7, 8, 9, 10) + "p0,7,9,0,1,50,0;c20;");
+        Due.is("eleven ways", fewer.leastPay(), 2047);
+        Due.relay(fewer, "p0,7,9,9,1,50,0;p0,7,9,9,1,50,0;c2;");
+        Due.is("two ways, where there were eleven", fewer.leastPay(), 3);
         Due.sentence(21, "no WAY: as what one has else");
+        Due.relay(fewer, "p0,1,9,0,0,50,0;");
+        Due.is("no way, where there were two", fewer.leastPay(), 0);
         Due.is("no path", new BorderGuards().leastPay(), 0);
         Due.is("no way", Due.land("p0,1,9,0,1,50,0;p7,0,9,0,0,50,0;t0,1,0;o9;c9;").leastPay(), 0);
     }
