@@ -33,12 +33,12 @@ final class Due {
         is(call, got, want);
     }
 
-    /** So many answers, all the same, whatever is asked for. */
+    /** Many answers at once, put into a text. */
     static void same(String what, String got, String want) {
         looked++;
         if (!got.equals(want)) {
             wrong++;
-            System.out.println(sentence + ": " + what + " changed\n    " + want + "\ninto\n    " + got);
+            System.out.println(sentence + ": " + what + ": due is\n    " + want + "\nanswered was\n    " + got);
         }
     }
 

@@ -142,6 +142,9 @@ public final class MostEdgesTest {
             Due.is("judge(0): path " + p + " is there no more", fewer.judge(0), p);
             fewer.row(p, 0);
         }
+        Due.relay(fewer, "");
+        fewer.row(0, 1);
+        Due.is("judge(0): no path is there any more", fewer.judge(0), 0);
         BorderGuards tower = Due.land("p0,7,9,0,0,100,0;p0,7,9,0,0,100,0;t1,0,0;");
         tower.row(1, 1);
         Due.is("judge(0)", tower.judge(0), 201);
