@@ -115,10 +115,13 @@ public final class LotEdgesTest {
 
     /** Fractions as texts: the value, then the guards' and the carriers' chances. */
     private static void dueGame(int[][] m, String value, String guards, String carriers) {
-        BorderGuards x = game(m);
+        dueChances(game(m), value, guards, carriers);
+    }
+
+    private static void dueChances(BorderGuards x, String value, String guards, String carriers) {
         Due.same("the value", x.value(0) + "/" + x.value(1), value);
-        Due.same("the guards' chances", chances(x, 0, m.length), guards);
-        Due.same("the carriers' chances", chances(x, 1, m[0].length), carriers);
+        Due.same("the guards' chances", chances(x, 0, guards.split(" ").length), guards);
+        Due.same("the carriers' chances", chances(x, 1, carriers.split(" ").length), carriers);
     }
 
     private static String chances(BorderGuards x, int side, int n) {
@@ -203,6 +206,26 @@ public final class LotEdgesTest {
         Due.sentence(25, "told by that alone (just one such way)");
         // The first two of each side are alike: many chances of theirs do it, and no others do.
         dueNoSupport(new int[][] {{4, 4, 0, 5}, {4, 4, 8, 0}, {0, 8, 4, 4}, {8, 3, 4, 4}});
+    }
+
+    /** A wide game first, then small ones on the same object: nothing of it is left over. */
+    private static void gamesOneBehindAnother() {
+        Due.sentence(25, "those that are told take part");
+        BorderGuards x = game(new int[][] {{0, 12, 15, 20}, {12, 0, 15, 20}, {12, 12, 0, 20}, {12, 12, 15, 0}});
+        dueChances(x, "180/17", "2/17 2/17 5/17 8/17", "5/17 5/17 4/17 3/17");
+        int guard = x.guard(0, -1);
+        int carrier = x.carrier(0, -1);
+        dueChances(x, "10/1", "-1/-1 1/6 1/3 1/2", "-1/-1 5/12 1/3 1/4");
+        int second = x.carrier(1, -1);
+        // Guard 1 stops none of the two carriers that are left, so the others do it without it.
+        dueChances(x, "60/7", "-1/-1 0/1 3/7 4/7", "-1/-1 -1/-1 4/7 3/7");
+        int third = x.guard(3, -1);
+        dueChances(x, "20/1", "-1/-1 1/1 0/1 -1/-1", "-1/-1 -1/-1 0/1 1/1");
+        x.guard(3, third);
+        x.carrier(1, second);
+        x.carrier(0, carrier);
+        x.guard(0, guard);
+        dueChances(x, "180/17", "2/17 2/17 5/17 8/17", "5/17 5/17 4/17 3/17");
     }
 
     private static void noGame() {
@@ -327,6 +350,10 @@ public final class LotEdgesTest {
         BorderGuards nothing = game(new int[][] {{0, 0}, {9, 9}});
         nothing.tenths(0, 10);
         Due.is("told(): nothing comes through", nothing.told(), 0);
+        BorderGuards alone = game(new int[][] {{0}, {9}});
+        alone.tenths(0, 5);
+        alone.tenths(1, 5);
+        Due.is("told(): one carrier has no choice", alone.told(), 0);
         BorderGuards most = game(new int[][] {{0, 99}, {99, 0}});
         most.tenths(0, 5);
         most.tenths(1, 5);
@@ -492,6 +519,7 @@ public final class LotEdgesTest {
         supportsOfOne();
         supportsOfTwo();
         widerSupports();
+        gamesOneBehindAnother();
         noGame();
         noChance();
         tenthsAreTold();

@@ -3,6 +3,10 @@ public final class WayEdgesTest {
     private static final int BAD = Due.BAD, NONE = Due.NONE;
     private static final long PARTS = Due.PARTS;
 
+    // Seven paths: by posts on the first six one hundredth of a hundredth .. comes, by one on the last nearly all of that.
+    private static final String NEARLY_ALL = "p0,1,0,0,1,99,0;p1,2,0,0,1,99,0;p2,3,0,0,1,99,0;p3,4,0,0,1,99,0;p4,5,0,0,1,99,0;"
+            + "p5,6,0,0,1,99,0;p6,7,0,0,1,1,0;";
+
     /** The paths of one way, one behind the other, each with what is told of it. */
     private static String chain(int length, String rest) {
         StringBuilder text = new StringBuilder();
@@ -166,6 +170,11 @@ public final class WayEdgesTest {
         BorderGuards parts = Due.land(chain(7, "0,0,0,99,0") + "p0,7,0,1,0,100,0;v1;");
         Due.is("bestWay(127, 0): one part more than none", parts.bestWay(127, 0), 0);
         Due.is("bestWay(255, 0): more than -1", parts.bestWay(255, 0), 0);
+        BorderGuards near = Due.land(NEARLY_ALL + "p6,7,0,0,1,0,0;v1;");
+        Due.is("gain(127, 0)", near.gain(127, 0), 99);
+        Due.is("gain(127, 1)", near.gain(127, 1), 100);
+        Due.is("bestWay(127, 0): 100 parts rather than 99", near.bestWay(127, 0), 1);
+        Due.is("bestWay(63, 0): 100 parts each", near.bestWay(63, 0), 0);
         BorderGuards negative = Due.land("p0,7,0,99,0,0,0;p0,7,0,98,0,0,0;v0;");
         Due.is("bestWay(0, 0): all gains are below 0", negative.bestWay(0, 0), 1);
         Due.sentence(20, "BEST WAY (what = 0), 1 if it PAYS, 0 (1). NONE: no WAY; BAD");
@@ -226,7 +235,8 @@ public final class WayEdgesTest {
         Due.is("below what one has else, and still less", Due.land("p0,7,9,0,1,50,0;p0,7,9,0,1,60,0;o999;c2;").leastPay(), 3);
         Due.is("C is not looked at", Due.land("p0,7,0,0,1,50,0;p0,7,99,60,1,50,0;c1;").leastPay(), 1);
         // A share that differs in parts of a load alone.
-        Due.is("one part of a load", Due.land(chain(7, "0,0,1,99,0") + "v1;c7;").leastPay(), 127);
+        Due.is("parts of a load", Due.land(chain(7, "0,0,1,99,0") + "v1;c7;").leastPay(), 127);
+        Due.is("99 parts rather than 100", Due.land(NEARLY_ALL + "v1;c7;").leastPay(), 127);
         // Held by a tower the first ways gain less than the last: then a post on the last alone holds none of them.
         Due.is("the least of the greatest", Due.land("p0,7,9,0,20,51,0;p0,7,9,0,20,51,0;p0,7,9,50,1,0,0;t0,1,1;c1;").leastPay(), 4096);
         Due.is("a post that does as a tower does", Due.land("p0,1,9,0,20,50,0;p7,0,9,0,20,50,0;p1,7,9,0,1,50,0;t0,1,1;c1;").leastPay(), 4);
