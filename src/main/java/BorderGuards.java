@@ -20,8 +20,11 @@ public final class BorderGuards {
     private static final int HELD_SETS = 1 << MAX_PATHS;
     private static final int NOT_TOLD = -1;
     private static final int BAD_LOT = -100;
-    private static final long NO_GAIN = Long.MIN_VALUE;
-    private static final long BAD_GAIN = Long.MIN_VALUE + 1;
+    // Above all sums of loads, coin and waits; above all gains.
+    private static final int ABOVE_ALL = 0x7fffffff;
+    private static final long ABOVE_ALL_GAINS = 0x7fffffffffffffffL;
+    private static final long NO_GAIN = -ABOVE_ALL_GAINS - 1;
+    private static final long BAD_GAIN = NO_GAIN + 1;
     private static final long PARTS = 100000000000000L;
 
     // What is told of a path, by its number in the text.
@@ -44,13 +47,13 @@ public final class BorderGuards {
     private final Lots[] keptLots = new Lots[MAX_KEPT];
     private int keptCount;
 
+    // No survey: for a land without paths all rows of cuts, ways and plans are 0, as they are when made.
     public BorderGuards() {
         for (int i = 0; i < MAX_KEPT; i++) {
             keptLands[i] = new Land();
             keptLots[i] = new Lots();
         }
         keptCount = 0;
-        survey();
     }
 
     // ---- lands
@@ -692,7 +695,7 @@ public final class BorderGuards {
             for (int p = 0; p < MAX_PATHS; p++) {
                 bearings[p] = land.bearing(p, held, p == oneMorePath ? 1 : 0);
             }
-            least = Integer.MAX_VALUE;
+            least = ABOVE_ALL;
             // What the narrowest have in common is one of them, and by its bits the first.
             for (int cut = 0; cut < CUTS; cut++) {
                 int borne = sumOver(pathsOut[cut]);
@@ -790,7 +793,7 @@ public final class BorderGuards {
         }
 
         int leastBearing(Land land, int held, int w) {
-            int least = Integer.MAX_VALUE;
+            int least = ABOVE_ALL;
             int length = lengthOf(w);
             for (int i = 0; i < length && i < MAX_STEPS; i++) {
                 least = Math.min(least, land.bearing(pathAt(w, i), held, 0));
@@ -871,10 +874,10 @@ public final class BorderGuards {
                 return;
             }
             sets = Math.min(1 << land.pathCount, HELD_SETS);
-            Arrays.fill(mostByHeld, Integer.MAX_VALUE);
+            Arrays.fill(mostByHeld, ABOVE_ALL);
             Arrays.fill(affordable, UNSET);
             Arrays.fill(bestPosts, UNSET);
-            Arrays.fill(bestMost, Integer.MAX_VALUE);
+            Arrays.fill(bestMost, ABOVE_ALL);
             for (int cut = 0; cut < Cuts.CUTS; cut++) {
                 if (cuts.isNeeded(cut)) {
                     lowerMost(land, cuts.pathsOut[cut]);
@@ -963,7 +966,7 @@ public final class BorderGuards {
         void weigh(Land land, int a, int b) {
             sumNumbers(land, WAIT);
             foundPosts = UNSET;
-            foundSum = Integer.MAX_VALUE;
+            foundSum = ABOVE_ALL;
             for (int held = 0; held < sets; held++) {
                 int posts = affordable[held];
                 if (posts != UNSET) {
@@ -981,7 +984,7 @@ public final class BorderGuards {
                 return paying;
             }
             paying = 0;
-            long least = Long.MAX_VALUE;
+            long least = ABOVE_ALL_GAINS;
             for (int held = 0; held < sets; held++) {
                 int posts = affordable[held];
                 if (posts != UNSET) {
@@ -1222,7 +1225,7 @@ public final class BorderGuards {
 
     /** Nights one behind the other, each with one of the guards. */
     static final class Rounds {
-        static final int NEVER = Integer.MAX_VALUE;
+        static final int NEVER = ABOVE_ALL;
 
         private final int[] postsOf = new int[MAX_LOTS];
         private final int[] costOf = new int[MAX_LOTS];

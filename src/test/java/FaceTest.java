@@ -8,6 +8,7 @@ import java.nio.file.Path;
 import java.util.Arrays;
 import java.util.Set;
 import java.util.TreeSet;
+import java.util.regex.Matcher;
 import java.util.regex.Pattern;
 
 /** The class has the document's face and no other, keeps to the rules that can be seen, and calls make no objects. */
@@ -99,12 +100,24 @@ public final class FaceTest {
             check(!Pattern.compile(whole).matcher(code).find(), "no " + word);
         }
         check(code.replaceAll("import java\\.util\\.Arrays;", "").indexOf("import") < 0, "no import but Arrays");
+        library(code);
         int length = 0;
         for (String line : source.split("\n")) {
             boolean begins = line.matches("    (    )?(private |public |static |final )*[\\w\\[\\]]+ \\w+\\(.*\\{");
             length = begins ? 0 : length + 1;
             check(!line.matches("    (    )?}") || length <= 60, "short methods: " + length + " lines");
             length = line.matches("    (    )?}") ? 0 : length;
+        }
+    }
+
+    /** What the class takes from the library stands in LANGUAGE.md by its name; its constants do not. */
+    private static void library(String code) {
+        Set<String> listed = Set.of("Arrays.fill", "Integer.bitCount", "Integer.numberOfTrailingZeros", "Math.max",
+                "Math.min", "System.arraycopy");
+        Matcher used = Pattern.compile("\\b(Arrays|Integer|Long|Math|System|String|Character|Boolean)\\s*\\.\\s*\\w+")
+                .matcher(code.replaceAll("import [^;]*;", ""));
+        while (used.find()) {
+            check(listed.contains(used.group().replaceAll("\\s", "")), used.group() + " stands in the list of the library");
         }
     }
 
