@@ -101,6 +101,9 @@ public final class FaceTest {
         }
         check(code.replaceAll("import java\\.util\\.Arrays;", "").indexOf("import") < 0, "no import but Arrays");
         library(code);
+        Matcher constructor = Pattern.compile("public BorderGuards\\(\\) \\{(.*?)\n    }", Pattern.DOTALL).matcher(code);
+        check(constructor.find() && !Pattern.compile("(?!for)\\b[a-z]\\w*\\s*\\(").matcher(constructor.group(1)).find(),
+                "the constructor makes objects and hands nothing out: it calls no method");
         int length = 0;
         for (String line : source.split("\n")) {
             boolean begins = line.matches("    (    )?(private |public |static |final )*[\\w\\[\\]]+ \\w+\\(.*\\{");
